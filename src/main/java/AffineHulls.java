@@ -4,9 +4,9 @@ import java.util.Arrays;
  * Programs as graphs of steps that assign, forget and ask, and all affine equations that hold at
  * their nodes in every run when questions are passed over.
  *
- * <p>Every row (form, point, values of the run) has V + 1 places: 1 .. V are the variables', 0 is the
- * constant's. Points and values have a 1 at place 0, so that a form's value is one sum of products,
- * and so that a point is in others just when its row is a sum of multiples of theirs.
+ * <p>Every row (form, point, values of the run) has V + 1 places: 1 .. V are the variables', 0 is
+ * the constant's. Points and values have a 1 at place 0, so that a form's value is one sum of
+ * products, and so that a point is in others just when its row is a sum of multiples of theirs.
  */
 public final class AffineHulls {
   private static final int MODULUS = 65521;
@@ -360,8 +360,8 @@ public final class AffineHulls {
     return noteSpan.contains(work);
   }
 
-  private static int number(long x) {
-    return (int) Math.floorMod(x, (long) MODULUS);
+  private static int number(int x) {
+    return Math.floorMod(x, MODULUS);
   }
 
   private static int valueOf(int[] form, int[] row) {
@@ -369,12 +369,13 @@ public final class AffineHulls {
     for (int k = 0; k < form.length; k++) {
       sum += (long) form[k] * row[k];
     }
-    return number(sum);
+    return (int) (sum % MODULUS);
   }
 
+  /** The factor is 0 .. 65521: callers subtract by the modulus less a number. */
   private static void addMultiple(int[] row, int factor, int[] other) {
     for (int k = 0; k < row.length; k++) {
-      row[k] = number(row[k] + (long) factor * other[k]);
+      row[k] = (int) ((row[k] + (long) factor * other[k]) % MODULUS);
     }
   }
 
@@ -430,7 +431,7 @@ public final class AffineHulls {
       }
     }
 
-    /** Changes a form at the edge's end to the one that its value is before the edge. */
+    /** Changes a form to the one that its value is before the edge; x is 0 or 1. */
     void stepBack(int[] row, int x) {
       if (kind != ASSIGN && kind != FORGET) {
         return;
@@ -440,7 +441,7 @@ public final class AffineHulls {
       if (kind == ASSIGN) {
         addMultiple(row, factor, form);
       } else {
-        row[0] = number(row[0] + (long) factor * x);
+        row[0] = number(row[0] + factor * x);
       }
     }
   }
@@ -501,9 +502,9 @@ public final class AffineHulls {
 
   /**
    * The sums of multiples of some rows. Each kept row has a place of its own, where it is 1 and the
-   * other kept rows are 0: the first place at which it is not 0, in the order 0, V, .., 2, 1. As this
-   * is the equations' order from its end, the forms that vanish on the span come out reduced, one for
-   * each place that is free.
+   * other kept rows are 0: the first place at which it is not 0, in the order 0, V, .., 2, 1. As
+   * this is the equations' order from its end, the forms that vanish on the span come out reduced,
+   * one for each place that is free.
    */
   private static final class Span {
     final int[][] kept;
@@ -539,7 +540,7 @@ public final class AffineHulls {
       addMultiple(fresh, inverse(rest[leading]), rest);
       for (int k = 0; k < taken.length; k++) {
         if (taken[k]) {
-          addMultiple(kept[k], number(-kept[k][leading]), fresh);
+          addMultiple(kept[k], MODULUS - kept[k][leading], fresh);
         }
       }
       taken[leading] = true;
@@ -550,7 +551,7 @@ public final class AffineHulls {
       copy(row, rest);
       for (int k = 0; k < taken.length; k++) {
         if (taken[k]) {
-          addMultiple(rest, number(-rest[k]), kept[k]);
+          addMultiple(rest, MODULUS - rest[k], kept[k]);
         }
       }
     }
@@ -581,7 +582,7 @@ public final class AffineHulls {
       return 0;
     }
 
-    /** Coefficient k of the form that vanishes on the span and is 1 at one free place, 0 at others. */
+    /** Coefficient k of the vanishing form that is 1 at this free place and 0 at the others. */
     int vanishing(int free, int k) {
       if (k == free) {
         return 1;

@@ -12,11 +12,15 @@ public final class ModelTest {
   private static final int CALLS = 512;
 
   private static long seed = 20261119;
+  private static int soundYes = 0;
+  private static int soundNo = 0;
 
   public static void main(String[] args) {
     for (int run = 0; run < RUNS; run++) {
       oneRun(run);
+      soundRun(run);
     }
+    Due.is("sound() answered yes and no often enough", soundYes > 3000 && soundNo > 3000, true);
     Due.end();
   }
 
@@ -54,6 +58,40 @@ public final class ModelTest {
     for (int call = 0; call < CALLS; call++) {
       boolean early = call < 6 * edgesWanted;
       oneCall("run " + run + ", call " + call + ": ", x, m, early ? any(9) : 4 + any(20));
+    }
+  }
+
+  /** Few edges, few notes away from the entry, small numbers: here sound() is no foregone thing. */
+  private static void soundRun(int run) {
+    int variables = 1 + any(3);
+    AffineHulls x = new AffineHulls(3, variables);
+    Model m = new Model(3, variables);
+    for (int edges = 1 + any(2); edges > 0; edges--) {
+      smallDraft(x, m);
+      int from = any(6) == 0 ? 0 : 1 + any(2);
+      int to = 1 + any(2);
+      int kind = any(5);
+      int v = 1 + any(variables);
+      same("edge", () -> x.edge(from, to, kind, v), () -> m.edge(from, to, kind, v));
+    }
+    for (int round = 0; round < 20; round++) {
+      same("forget", x::forget, m::forget);
+      for (int notes = 1 + any(5); notes > 0; notes--) {
+        smallDraft(x, m);
+        int node = 1 + any(2);
+        same("note", () -> x.note(node), () -> m.note(node));
+        same("sound run " + run + ", round " + round, () -> x.sound() ? 1 : 0, m::sound);
+        soundYes += m.sound();
+        soundNo += 1 - m.sound();
+      }
+    }
+  }
+
+  private static void smallDraft(AffineHulls x, Model m) {
+    for (int k = 0; k <= m.v; k++) {
+      int c = any(2) * (any(3) - 1);
+      x.term(k, c);
+      m.term(k, c);
     }
   }
 
@@ -183,6 +221,9 @@ public final class ModelTest {
         }
       }
       Due.is(at + "equation " + i + " holds", m.holdsForm(row, node), true);
+      for (int c : row) {
+        Due.is(at + "equation " + i + " has numbers", 0 <= c && c < P, true);
+      }
       last = first;
     }
   }
