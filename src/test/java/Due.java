@@ -2,15 +2,45 @@
 final class Due {
   private static int wrong = 0;
   private static int asked = 0;
+  private static String sentence = "";
 
   private Due() {}
+
+  /** Each test by itself: what one throws does not keep the others from being asked. */
+  static void each(Runnable... tests) {
+    for (Runnable test : tests) {
+      sentence("");
+      try {
+        test.run();
+      } catch (RuntimeException e) {
+        tell("it threw " + e);
+      }
+    }
+  }
+
+  /** What is asked from here on would be wrong if this sentence of the document were broken. */
+  static void sentence(String words) {
+    sentence = words;
+  }
+
+  /** "..." stands for words of the document that are left out. */
+  static void sentence(String words, String boundaryCase) {
+    sentence = words + " [" + boundaryCase + "]";
+  }
 
   static void is(String call, long got, long want) {
     asked++;
     if (got != want) {
-      wrong++;
-      System.out.println(call + " answered " + got + ", due is " + want);
+      tell(call + " answered " + got + ", due is " + want);
     }
+  }
+
+  private static void tell(String fault) {
+    wrong++;
+    if (!sentence.isEmpty()) {
+      System.out.println("\"" + sentence + "\":");
+    }
+    System.out.println(fault);
   }
 
   static void is(String call, boolean got, boolean want) {
@@ -27,8 +57,7 @@ final class Due {
       got = e.getClass();
     }
     if (got != want) {
-      wrong++;
-      System.out.println(call + " threw " + got + ", due is " + want);
+      tell(call + " threw " + got + ", due is " + want);
     }
   }
 
@@ -38,6 +67,10 @@ final class Due {
 
   static void badState(String call, Runnable run) {
     refuses(call, IllegalStateException.class, run);
+  }
+
+  static void unsupported(String call, Runnable run) {
+    refuses(call, UnsupportedOperationException.class, run);
   }
 
   static void badIndex(String call, Runnable run) {

@@ -8,8 +8,11 @@ import java.util.List;
  */
 public final class ModelTest {
   private static final int P = 65521;
-  private static final int RUNS = 3000;
+  private static final int RUNS = 5000;
   private static final int CALLS = 512;
+
+  /** One choice of oneCall takes no more calls than this: noteAll(), and 24 equations read. */
+  private static final int MOST_AT_ONCE = 130;
 
   private static long seed = 20261119;
   private static int soundYes = 0;
@@ -52,19 +55,20 @@ public final class ModelTest {
   private static void oneRun(int run) {
     int nodes = anyUpTo(9);
     int variables = anyUpTo(5);
-    AffineHulls x = new AffineHulls(nodes, variables);
+    Counted x = new Counted(nodes, variables);
     Model m = new Model(nodes, variables);
     int edgesWanted = any(24);
-    for (int call = 0; call < CALLS; call++) {
-      boolean early = call < 6 * edgesWanted;
-      oneCall("run " + run + ", call " + call + ": ", x, m, early ? any(9) : 4 + any(20));
+    while (x.calls <= CALLS - MOST_AT_ONCE) {
+      boolean early = x.calls < 6 * edgesWanted;
+      oneCall("run " + run + ", call " + x.calls + ": ", x, m, early ? any(9) : 4 + any(20));
     }
+    neverTooOften(x);
   }
 
   /** Few edges, few notes away from the entry, small numbers: here sound() is no foregone thing. */
   private static void soundRun(int run) {
     int variables = 1 + any(3);
-    AffineHulls x = new AffineHulls(3, variables);
+    Counted x = new Counted(3, variables);
     Model m = new Model(3, variables);
     for (int edges = 1 + any(2); edges > 0; edges--) {
       smallDraft(x, m);
@@ -74,7 +78,7 @@ public final class ModelTest {
       int v = 1 + any(variables);
       same("edge", () -> x.edge(from, to, kind, v), () -> m.edge(from, to, kind, v));
     }
-    for (int round = 0; round < 20; round++) {
+    for (int round = 0; round < 15; round++) {
       same("forget", x::forget, m::forget);
       for (int notes = 1 + any(5); notes > 0; notes--) {
         smallDraft(x, m);
@@ -85,9 +89,14 @@ public final class ModelTest {
         soundNo += 1 - m.sound();
       }
     }
+    neverTooOften(x);
   }
 
-  private static void smallDraft(AffineHulls x, Model m) {
+  private static void neverTooOften(Counted x) {
+    Due.is("calls on one object", x.calls, Math.min(x.calls, CALLS));
+  }
+
+  private static void smallDraft(Counted x, Model m) {
     for (int k = 0; k <= m.v; k++) {
       int c = any(2) * (any(3) - 1);
       x.term(k, c);
@@ -95,7 +104,7 @@ public final class ModelTest {
     }
   }
 
-  private static void oneCall(String at, AffineHulls x, Model m, int choice) {
+  private static void oneCall(String at, Counted x, Model m, int choice) {
     int node = anyUpTo(m.n - 1);
     int k = anyUpTo(m.v);
     int i = anyUpTo(m.v);
@@ -162,6 +171,85 @@ public final class ModelTest {
     int answer();
   }
 
+  /** The object itself, with its calls counted: after 512 it may answer what it likes. */
+  private static final class Counted {
+    final AffineHulls x;
+    int calls = 0;
+
+    Counted(int nodes, int variables) {
+      x = new AffineHulls(nodes, variables);
+    }
+
+    private AffineHulls next() {
+      calls++;
+      return x;
+    }
+
+    void term(int k, int c) {
+      next().term(k, c);
+    }
+
+    int edge(int from, int to, int kind, int v) {
+      return next().edge(from, to, kind, v);
+    }
+
+    void entry(int node) {
+      next().entry(node);
+    }
+
+    int analyse() {
+      return next().analyse();
+    }
+
+    int points(int node) {
+      return next().points(node);
+    }
+
+    int point(int node, int i, int k) {
+      return next().point(node, i, k);
+    }
+
+    int equations(int node) {
+      return next().equations(node);
+    }
+
+    int coefficient(int node, int i, int k) {
+      return next().coefficient(node, i, k);
+    }
+
+    boolean holds(int node) {
+      return next().holds(node);
+    }
+
+    void begin(int k, int number) {
+      next().begin(k, number);
+    }
+
+    boolean go(int edge, int number) {
+      return next().go(edge, number);
+    }
+
+    int at(int k) {
+      return next().at(k);
+    }
+
+    int note(int node) {
+      return next().note(node);
+    }
+
+    int noteAll() {
+      return next().noteAll();
+    }
+
+    int forget() {
+      return next().forget();
+    }
+
+    boolean sound() {
+      return next().sound();
+    }
+  }
+
   /** An exception counts as an answer of its own, below all others. */
   private static long answerOf(Call call) {
     try {
@@ -184,11 +272,11 @@ public final class ModelTest {
     Due.is(name, answerOf(call), want);
   }
 
-  private static void draftAnEquation(AffineHulls x, Model m, int node) {
-    if (node < 0 || node >= m.n || !m.analysed || x.equations(node) == 0) {
+  private static void draftAnEquation(Counted x, Model m, int node) {
+    if (node < 0 || node >= m.n || !m.analysed || m.equations(node) == 0) {
       return;
     }
-    int i = any(x.equations(node));
+    int i = any(m.equations(node));
     int factor = 1 + any(3);
     for (int k = 0; k <= m.v; k++) {
       int c = x.coefficient(node, i, k) * factor;
@@ -197,27 +285,31 @@ public final class ModelTest {
     }
   }
 
-  private static void checkCoefficient(String at, AffineHulls x, Model m, int node, int i, int k) {
+  private static void checkCoefficient(String at, Counted x, Model m, int node, int i, int k) {
     long got = answerOf(() -> x.coefficient(node, i, k));
     long want = answerOf(() -> m.coefficient(x, node, i, k));
     Due.is(at + "coefficient " + node + " " + i + " " + k, got, want);
   }
 
   /** As many as there must be, reduced, and holding: then they are THE equations. */
-  private static void checkEquations(String at, AffineHulls x, Model m, int node) {
+  private static void checkEquations(String at, Counted x, Model m, int node) {
     if (node < 0 || node >= m.n || !m.analysed) {
       return;
     }
     int count = x.equations(node);
+    int[][] rows = new int[count][];
+    for (int i = 0; i < count; i++) {
+      rows[i] = m.equation(x, node, i);
+    }
     int last = -1;
     for (int i = 0; i < count; i++) {
-      int[] row = m.equation(x, node, i);
+      int[] row = rows[i];
       int first = m.firstPlace(row);
       Due.is(at + "equation " + i + " begins later", first > last, true);
       Due.is(at + "equation " + i + " begins with 1", first >= 0 && row[m.placeAt(first)] == 1, true);
       for (int other = 0; other < count && first >= 0; other++) {
         if (other != i) {
-          Due.is(at + "0 in equation " + other, x.coefficient(node, other, m.placeAt(first)), 0);
+          Due.is(at + "0 in equation " + other, rows[other][m.placeAt(first)], 0);
         }
       }
       Due.is(at + "equation " + i + " holds", m.holdsForm(row, node), true);
@@ -436,7 +528,7 @@ public final class ModelTest {
     }
 
     /** Right by checkEquations; here only who may ask. */
-    int coefficient(AffineHulls x, int node, int i, int k) {
+    int coefficient(Counted x, int node, int i, int k) {
       must(isNode(node) && 0 <= k && k <= v);
       mustBeAnalysed();
       if (i < 0 || i >= equations(node)) {
@@ -445,7 +537,7 @@ public final class ModelTest {
       return x.coefficient(node, i, k);
     }
 
-    int[] equation(AffineHulls x, int node, int i) {
+    int[] equation(Counted x, int node, int i) {
       int[] row = new int[v + 1];
       for (int k = 0; k <= v; k++) {
         row[k] = x.coefficient(node, i, k);
@@ -531,7 +623,7 @@ public final class ModelTest {
       return noteForms.size();
     }
 
-    int noteAll(AffineHulls x) {
+    int noteAll(Counted x) {
       mustBeAnalysed();
       int sum = 0;
       for (int node = 0; node < n; node++) {
