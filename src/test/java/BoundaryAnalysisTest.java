@@ -8,6 +8,7 @@ import java.util.Arrays;
 public final class BoundaryAnalysisTest {
   public static void main(String[] args) {
     Due.each(
+        BoundaryAnalysisTest::inEveryRun,
         BoundaryAnalysisTest::asksNothing,
         BoundaryAnalysisTest::noPointsAtFirst,
         BoundaryAnalysisTest::inNoPoints,
@@ -41,6 +42,36 @@ public final class BoundaryAnalysisTest {
         BoundaryAnalysisTest::draftAfterHolds,
         BoundaryAnalysisTest::analyseAgain);
     Due.end();
+  }
+
+  /** x + y - 3z is 2 at node 2 whatever the run began with, and however often it goes round there. */
+  private static void inEveryRun() {
+    Due.sentence("all affine equations that hold at their nodes in every run", "the least and largest numbers");
+    AffineHulls x = new AffineHulls(3, 3);
+    x.edge(0, 1, 2, 2);
+    Make.assign(x, 1, 2, 1, 2, 0, -1, 3);
+    Make.assign(x, 2, 1, 3, 1, 0, 0, 2);
+    Due.is("analyse()", x.analyse(), 11);
+    Due.is("equations(2)", x.equations(2), 1);
+    Due.equationIs(x, 2, 0, 65519, 1, 1, 65518);
+    for (int number : new int[] {0, 1, 2, 65520, 65521, -1, 32761, Integer.MIN_VALUE, Integer.MAX_VALUE}) {
+      x.begin(1, number);
+      x.begin(3, number);
+      x.go(0, number);
+      for (int round = 0; round < 3; round++) {
+        x.go(1, 0);
+        Due.is("at node 2, round " + round + ", from " + number, valueAt(x, 2, 0), 0);
+        x.go(2, 0);
+      }
+    }
+  }
+
+  private static long valueAt(AffineHulls x, int node, int i) {
+    long value = x.coefficient(node, i, 0);
+    for (int k = 1; k <= 3; k++) {
+      value += (long) x.coefficient(node, i, k) * x.at(k);
+    }
+    return value % 65521;
   }
 
   /** Node 1 over questions that no run can pass. */
@@ -483,7 +514,7 @@ public final class BoundaryAnalysisTest {
 
   private static void analyseAgain() {
     Due.sentence("THE ANALYSIS: how many points there are in all.", "a second time");
-    AffineHulls x = new AffineHulls(3, 2);
+    AffineHulls x = new AffineHulls(4, 2);
     Make.skip(x, 0, 1);
     Due.is("analyse()", x.analyse(), 6);
     Due.is("analyse() again", x.analyse(), 6);
@@ -494,13 +525,13 @@ public final class BoundaryAnalysisTest {
     x.entry(2);
     Due.is("from the last node", x.analyse(), 3);
     Due.is("equations(1)", x.equations(1), 3);
-    for (int i = 0; i < 3; i++) {
-      Due.is("coefficient(1, " + i + ", 0), nothing of old", x.coefficient(1, i, 0), i == 2 ? 1 : 0);
-      Due.is("coefficient(1, " + i + ", 1), nothing of old", x.coefficient(1, i, 1), i == 0 ? 1 : 0);
-      Due.is("coefficient(1, " + i + ", 2), nothing of old", x.coefficient(1, i, 2), i == 1 ? 1 : 0);
-    }
     x.entry(0);
     Due.is("and from the first", x.analyse(), 8);
     Due.equationIs(x, 2, 0, 65516, 1, 0);
+    x.entry(3);
+    Due.is("and from where no edge goes", x.analyse(), 3);
+    Due.equationIs(x, 2, 0, 0, 1, 0);
+    Due.equationIs(x, 2, 1, 0, 0, 1);
+    Due.equationIs(x, 2, 2, 1, 0, 0);
   }
 }

@@ -26,6 +26,8 @@ public final class BoundaryProgramTest {
         BoundaryProgramTest::perhapsTheSameNode,
         BoundaryProgramTest::draftAtFirst,
         BoundaryProgramTest::nothingIsChanged,
+        BoundaryProgramTest::valueOfAForm,
+        BoundaryProgramTest::formOfAKindWithoutOne,
         BoundaryProgramTest::anyNumber,
         BoundaryProgramTest::onlyWhereZero,
         BoundaryProgramTest::onlyWhereNotZero,
@@ -70,7 +72,7 @@ public final class BoundaryProgramTest {
   }
 
   private static void numbersOfTerm() {
-    Due.sentence("and so are ints that are given, also those below 0.", "term");
+    Due.sentence("NUMBERS are 0 .. 65520; ... and so are ints that are given, also those below 0.", "term");
     for (int[] n : NUMBERS) {
       AffineHulls x = new AffineHulls(1, 2);
       Make.assign(x, 0, 0, 1, n[0]);
@@ -221,6 +223,41 @@ public final class BoundaryProgramTest {
       Due.is("at(1)", x.at(1), 65520);
       Due.is("at(2)", x.at(2), 11);
     }
+  }
+
+  private static void valueOfAForm() {
+    Due.sentence("1: a variable becomes the value of a form.");
+    AffineHulls x = new AffineHulls(1, 4);
+    Make.assign(x, 0, 0, 4, 65520, 1, 2, 3, 4);
+    Make.assign(x, 0, 0, 1, 0);
+    for (int k = 1; k <= 4; k++) {
+      x.begin(k, 10 * k);
+    }
+    Due.is("go(0, 0)", x.go(0, 0), true);
+    Due.is("the value with the variable as it was", x.at(4), 299);
+    Due.is("others stay", x.at(1), 10);
+    Due.is("go(0, 0)", x.go(0, 0), true);
+    Due.is("and again", x.at(4), 139 + 4 * 299);
+    Due.is("go(1, 0)", x.go(1, 0), true);
+    Due.is("a form of 0", x.at(1), 0);
+    Due.is("others stay", x.at(4), 1335);
+  }
+
+  private static void formOfAKindWithoutOne() {
+    Due.sentence("with the draft as its form if it has one;", "it has none");
+    AffineHulls x = new AffineHulls(3, 1);
+    Due.draft(x, 7, 1);
+    x.edge(0, 1, 0, 0);
+    Due.draft(x, 7, 1);
+    x.edge(1, 2, 2, 1);
+    x.begin(1, 5);
+    Due.is("kind 0 can be gone", x.go(0, 3), true);
+    Due.is("at(1)", x.at(1), 5);
+    Due.is("kind 2 can be gone", x.go(1, 3), true);
+    Due.is("at(1)", x.at(1), 3);
+    Due.is("analyse()", x.analyse(), 6);
+    Due.pointIs(x, 1, 1, 10, 1);
+    Due.pointIs(x, 2, 1, 11001, 1);
   }
 
   private static void anyNumber() {

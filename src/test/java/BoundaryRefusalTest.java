@@ -1,19 +1,13 @@
-import java.util.ArrayList;
 import java.util.List;
 
 /**
  * A test for each sentence of the document that names a refused call: which exception each call
- * throws, which one first, that it changes nothing, and what ANALYSED asks. Each refusal stands
- * with one just beside it that is not refused.
+ * throws, which one first, and what ANALYSED asks. Each refusal stands with a call just beside it
+ * that is not refused. That a refused call changes nothing is looked at in BoundaryChangesTest.
  */
 public final class BoundaryRefusalTest {
   private static final int MIN = Integer.MIN_VALUE;
   private static final int MAX = Integer.MAX_VALUE;
-
-  private static final Class<? extends RuntimeException> ARGUMENT = IllegalArgumentException.class;
-  private static final Class<? extends RuntimeException> STATE = IllegalStateException.class;
-  private static final Class<? extends RuntimeException> INDEX = IndexOutOfBoundsException.class;
-  private static final Class<? extends RuntimeException> UNSUPPORTED = UnsupportedOperationException.class;
 
   /** What is no node of three, and what is no place (0 .. V) of two variables. */
   private static final int[] NO_NODES = {-1, 3, 8, MIN, MAX};
@@ -22,10 +16,6 @@ public final class BoundaryRefusalTest {
 
   private interface Call {
     void on(AffineHulls x);
-  }
-
-  private interface State {
-    AffineHulls make();
   }
 
   public static void main(String[] args) {
@@ -58,12 +48,7 @@ public final class BoundaryRefusalTest {
         BoundaryRefusalTest::notAnalysedAfterEdge,
         BoundaryRefusalTest::notAnalysedAfterEntry,
         BoundaryRefusalTest::notAnalysedAfterSameEntry,
-        BoundaryRefusalTest::stillAnalysed,
-        BoundaryRefusalTest::changesNothingWhenNew,
-        BoundaryRefusalTest::changesNothingWhenAnalysed,
-        BoundaryRefusalTest::changesNothingWhenNotAnalysed,
-        BoundaryRefusalTest::changesNothingWhenFull,
-        BoundaryRefusalTest::changesNothingWithTooManyEquations);
+        BoundaryRefusalTest::stillAnalysed);
     Due.end();
   }
 
@@ -390,9 +375,9 @@ public final class BoundaryRefusalTest {
   }
 
   private static void isAnalysed(String when, AffineHulls x, boolean is) {
-    Class<? extends RuntimeException> state = is ? null : STATE;
+    Class<? extends RuntimeException> state = is ? null : IllegalStateException.class;
     Due.refuses("points(0) " + when, state, () -> x.points(0));
-    Due.refuses("point(0, 0, 0) " + when, is ? null : STATE, () -> x.point(0, 0, 0));
+    Due.refuses("point(0, 0, 0) " + when, state, () -> x.point(0, 0, 0));
     Due.refuses("equations(0) " + when, state, () -> x.equations(0));
     Due.refuses("coefficient(2, 0, 0) " + when, state, () -> x.coefficient(2, 0, 0));
     Due.refuses("holds(0) " + when, state, () -> x.holds(0));
@@ -454,132 +439,5 @@ public final class BoundaryRefusalTest {
     x.analyse();
     Due.badState("edge 20", () -> x.edge(0, 1, 0, 0));
     isAnalysed("after edge() when there are 20", x, true);
-  }
-
-  /** A twin on which the call was refused answers all that can be asked as the other one does. */
-  private static void unchanged(String name, State state, int nodes, int variables,
-      Class<? extends RuntimeException> want, Call call) {
-    AffineHulls asked = state.make();
-    Due.refuses(name, want, () -> call.on(asked));
-    List<String> got = Probe.answers(asked, nodes, variables);
-    List<String> due = Probe.answers(state.make(), nodes, variables);
-    Due.is(name + ": as many answers", got.size(), due.size());
-    List<String> different = new ArrayList<>();
-    for (int i = 0; i < due.size(); i++) {
-      if (!got.get(i).equals(due.get(i))) {
-        different.add(got.get(i) + " (due: " + due.get(i) + ")");
-      }
-    }
-    if (!different.isEmpty()) {
-      System.out.println(different);
-    }
-    Due.is(name + ": answers that differ after it", different.size(), 0);
-  }
-
-  /** Three nodes and two variables, an edge of each kind, notes, a draft, and a run under way. */
-  private static AffineHulls built() {
-    AffineHulls x = new AffineHulls(3, 2);
-    Make.assign(x, 0, 1, 1, 3, 2, 1);
-    Make.ask(x, 1, 1, 3, -17, 1);
-    Make.ask(x, 1, 2, 4, 1, 1, 1);
-    x.edge(2, 1, 2, 2);
-    Make.skip(x, 1, 0);
-    Make.note(x, 1, 5, 1, 0);
-    Make.note(x, 2, 0, 1, 2);
-    x.begin(1, 5);
-    x.begin(2, 4);
-    x.go(0, 0);
-    Due.draft(x, 6, 2, 3);
-    return x;
-  }
-
-  private static AffineHulls builtAndAnalysed() {
-    AffineHulls x = built();
-    x.analyse();
-    return x;
-  }
-
-  private static AffineHulls full() {
-    AffineHulls x = builtAndAnalysed();
-    Make.note(x, 2, 1, 1, 1);
-    Make.notes(x, 1, 21);
-    for (int i = 5; i < 20; i++) {
-      Make.assign(x, i % 3, (i + 1) % 3, 2, i, 1, i);
-    }
-    x.analyse();
-    Due.draft(x, 6, 2, 3);
-    return x;
-  }
-
-  private static AffineHulls tooManyEquations() {
-    AffineHulls x = new AffineHulls(6, 4);
-    x.edge(0, 0, 2, 4);
-    Make.note(x, 5, 1, 1, 1);
-    x.analyse();
-    Due.draft(x, 6, 2, 3);
-    return x;
-  }
-
-  private static void wrongArguments(String when, State state) {
-    for (int node : new int[] {-1, 3, MAX}) {
-      Call[] calls = {x -> x.edge(node, 0, 0, 0), x -> x.edge(0, node, 0, 0), x -> x.entry(node),
-          x -> x.points(node), x -> x.point(node, 0, 0), x -> x.equations(node),
-          x -> x.coefficient(node, 0, 0), x -> x.holds(node), x -> x.note(node)};
-      refusedWithNoChange(when + ", node " + node, state, ARGUMENT, calls);
-    }
-    for (int k : new int[] {-1, 3, MIN}) {
-      Call[] calls = {x -> x.term(k, 9), x -> x.edge(0, 1, 1, k), x -> x.edge(0, 1, 2, k),
-          x -> x.point(0, 0, k), x -> x.coefficient(2, 0, k), x -> x.begin(k, 9), x -> x.at(k)};
-      refusedWithNoChange(when + ", variable " + k, state, ARGUMENT, calls);
-    }
-    Call[] calls = {x -> x.edge(0, 1, 1, 0), x -> x.edge(0, 1, 2, 0), x -> x.begin(0, 9),
-        x -> x.edge(0, 1, -1, 1), x -> x.edge(0, 1, 5, 1), x -> x.go(-1, 9), x -> x.go(20, 9)};
-    refusedWithNoChange(when + ", variable 0, no kind, no edge", state, ARGUMENT, calls);
-  }
-
-  private static void refusedWithNoChange(String when, State state,
-      Class<? extends RuntimeException> want, Call... calls) {
-    for (int i = 0; i < calls.length; i++) {
-      unchanged(when + ", call " + i, state, 3, 2, want, calls[i]);
-    }
-  }
-
-  private static void changesNothingWhenNew() {
-    Due.sentence("a call that throws changes nothing", "on a new object");
-    State state = () -> new AffineHulls(3, 2);
-    wrongArguments("new", state);
-    refusedWithNoChange("new", state, STATE, x -> x.points(0), x -> x.point(0, 0, 0),
-        x -> x.equations(0), x -> x.coefficient(0, 0, 0), x -> x.holds(0), x -> x.noteAll());
-    refusedWithNoChange("new", state, ARGUMENT, x -> x.go(0, 9));
-  }
-
-  private static void changesNothingWhenAnalysed() {
-    Due.sentence("a call that throws changes nothing", "analysed");
-    State state = BoundaryRefusalTest::builtAndAnalysed;
-    wrongArguments("analysed", state);
-    refusedWithNoChange("analysed", state, INDEX, x -> x.point(0, 3, 0), x -> x.point(1, -1, 0),
-        x -> x.coefficient(0, 3, 0), x -> x.coefficient(1, -1, 0));
-    refusedWithNoChange("analysed, go from elsewhere", state, ARGUMENT, x -> x.go(0, 9), x -> x.go(3, 9));
-  }
-
-  private static void changesNothingWhenNotAnalysed() {
-    Due.sentence("a call that throws changes nothing", "not analysed");
-    State state = BoundaryRefusalTest::built;
-    wrongArguments("not analysed", state);
-    refusedWithNoChange("not analysed", state, STATE, x -> x.points(0), x -> x.point(0, 0, 0),
-        x -> x.equations(0), x -> x.coefficient(0, 0, 0), x -> x.holds(0), x -> x.noteAll());
-  }
-
-  private static void changesNothingWhenFull() {
-    Due.sentence("a call that throws changes nothing", "with 20 edges and 24 notes");
-    State state = BoundaryRefusalTest::full;
-    wrongArguments("full", state);
-    refusedWithNoChange("full", state, STATE, x -> x.edge(0, 1, 0, 0), x -> x.edge(0, 1, 1, 1),
-        x -> x.edge(0, 1, 2, 2), x -> x.note(0), x -> x.note(1));
-  }
-
-  private static void changesNothingWithTooManyEquations() {
-    Due.sentence("a call that throws changes nothing", "with more than 24 equations");
-    unchanged("noteAll() of 25", BoundaryRefusalTest::tooManyEquations, 6, 4, UNSUPPORTED, x -> x.noteAll());
   }
 }

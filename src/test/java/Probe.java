@@ -2,10 +2,13 @@ import java.util.ArrayList;
 import java.util.List;
 
 /**
- * Asks an object all that it can tell, its draft, edges and notes at the end (for these it must be
- * changed): two objects in the same state answer alike.
+ * Asks an object all that it can tell, aspect by aspect: two objects in the same state answer alike.
+ * Some aspects can't be told without changing the object, or without calls that may be refused, so
+ * what is asked first is for the caller to choose.
  */
 final class Probe {
+  enum Aspect { RUN, ENTRY, ANALYSIS, SOUND, NOTE_COUNT, DRAFT_BY_EDGE, DRAFT_BY_NOTE, DRAFT_BY_HOLDS, EDGES }
+
   private final AffineHulls x;
   private final int nodes;
   private final int variables;
@@ -21,18 +24,35 @@ final class Probe {
     this.variables = variables;
   }
 
-  static List<String> answers(AffineHulls x, int nodes, int variables) {
+  static List<String> only(Aspect aspect, AffineHulls x, int nodes, int variables) {
     Probe probe = new Probe(x, nodes, variables);
-    probe.askTheRun();
-    probe.askTheAnalysis();
-    probe.ask("sound()", x::sound);
-    probe.askTheDraft();
-    probe.askTheEdges();
-    probe.ask("analyse()", x::analyse);
-    probe.askTheAnalysis();
-    probe.ask("begin(1, 9)", () -> { x.begin(1, 9); return x.at(0); });
-    probe.ask("forget()", x::forget);
+    probe.ask(aspect);
     return probe.answers;
+  }
+
+  static List<String> all(Aspect first, AffineHulls x, int nodes, int variables) {
+    Probe probe = new Probe(x, nodes, variables);
+    probe.ask(first);
+    for (Aspect aspect : Aspect.values()) {
+      if (aspect != first) {
+        probe.ask(aspect);
+      }
+    }
+    return probe.answers;
+  }
+
+  private void ask(Aspect aspect) {
+    switch (aspect) {
+      case RUN: askTheRun(); break;
+      case ENTRY: ask("entry by begin(1, 5)", () -> { x.begin(1, 5); return x.at(0); }); break;
+      case ANALYSIS: askTheAnalysis(); break;
+      case SOUND: ask("sound()", x::sound); break;
+      case NOTE_COUNT: ask("forget()", x::forget); break;
+      case DRAFT_BY_EDGE: askTheDraftByAnEdge(); break;
+      case DRAFT_BY_NOTE: askTheDraftByANote(); break;
+      case DRAFT_BY_HOLDS: ask("holds(0)", () -> x.holds(0)); break;
+      default: askTheEdges();
+    }
   }
 
   private void ask(String name, Call call) {
@@ -82,21 +102,33 @@ final class Probe {
     }
   }
 
-  /** With all edges in use the draft can't be put into a variable: then it is a note, or a form. */
-  private void askTheDraft() {
+  /** A new edge puts the draft's value into variable 1. */
+  private void askTheDraftByAnEdge() {
+    x.begin(1, 100);
+    x.begin(variables, 1000);
     int place = x.at(0);
-    ask("edge(..)", () -> x.edge(place, place, 1, 1));
-    ask("note(1)", () -> x.note(1));
-    ask("sound() with it", x::sound);
-    ask("holds(0)", () -> x.holds(0));
+    ask("edge(..), go(..), at(1)", () -> {
+      x.go(x.edge(place, place, 1, 1), 0);
+      return x.at(1);
+    });
   }
 
-  /** Two rounds over the edges: the run goes where it can, the draft's edge with it. */
+  /** A new node 1 note, which an edge from the entry does not keep unless it is 0. */
+  private void askTheDraftByANote() {
+    ask("note(1)", () -> x.note(1));
+    ask("sound() with it", x::sound);
+  }
+
+  /** Two rounds over the edges from the entry, wherever they can be gone; then what they bring. */
   private void askTheEdges() {
+    x.begin(1, 5);
+    x.begin(variables, 4);
     for (int i = 0; i < 40; i++) {
       int edge = i % 20;
       ask("go(" + edge + ", 7)", () -> x.go(edge, 7));
     }
     askTheRun();
+    ask("analyse()", x::analyse);
+    askTheAnalysis();
   }
 }
